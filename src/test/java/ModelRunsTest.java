@@ -1,15 +1,17 @@
 /** Long mixed runs of calls on the class and on the plain model: all answers and throws are the same. */
 public final class ModelRunsTest {
-    private static final int RUNS = 150;
-    private static final int CALLS = 500;
+    private static final int RUNS = 400;
+    private static final int CALLS = 120;
 
     private final Checks checks = new Checks();
     private long seed = 20261115;
     private LetterCounts x;
     private PlainModel model;
-    private int lettersInTen;
+    private StringBuilder calls;
+    private int oddOnes;
+    private int leavesInTen;
     private int nonesInTen;
-    private boolean wrongInputs;
+    private int lettersInTen;
 
     public static void main(String[] args) {
         new ModelRunsTest().run();
@@ -19,12 +21,10 @@ public final class ModelRunsTest {
         for (int run = 0; run < RUNS && checks.wrong() == 0; run++) {
             x = new LetterCounts();
             model = new PlainModel();
-            lettersInTen = 1 + next(6);
-            nonesInTen = next(6);
-            wrongInputs = next(3) > 0;
-            StringBuilder calls = new StringBuilder();
+            calls = new StringBuilder("run " + run + "\n");
+            setUp();
             for (int k = 0; k < CALLS && checks.wrong() == 0; k++) {
-                call(run, calls);
+                call();
             }
             if (checks.wrong() > 0) {
                 System.out.println(calls);
@@ -33,54 +33,122 @@ public final class ModelRunsTest {
         checks.end();
     }
 
-    private void call(int run, StringBuilder calls) {
-        int kind = next(200);
-        int n = among(0, 4);
-        int a = among(0, 7);
-        int b = among(0, 7);
-        int c = among(0, 7);
-        if (kind < 2) {
-            compare(run, calls, "clear()", () -> clearOf(x::clear), () -> clearOf(model::clear));
-        } else if (kind < 20) {
-            int[] s = {symbol(), symbol(), symbol(), symbol()};
-            compare(run, calls, "rule(" + n + ", " + s[0] + ", " + s[1] + ", " + s[2] + ", " + s[3] + ")",
-                    () -> x.rule(n, s[0], s[1], s[2], s[3]), () -> model.rule(n, s[0], s[1], s[2], s[3]));
-        } else if (kind < 60) {
-            compare(run, calls, "height(" + n + ", " + a + ", " + b + ", " + c + ")",
-                    () -> x.height(n, a, b, c), () -> model.height(n, a, b, c));
-        } else if (kind < 70) {
-            compare(run, calls, "many(" + n + ")", () -> x.many(n), () -> model.many(n));
-        } else if (kind < 90) {
-            int k = among(0, next(2) == 0 ? 20 : 511);
-            compare(run, calls, "count(" + n + ", " + k + ")", () -> x.count(n, k), () -> model.count(n, k));
-        } else if (kind < 120) {
-            deriveSomething(run, calls, n, a, b, c);
-        } else if (kind < 150) {
-            int k = among(0, next(3) > 0 ? 12 : 120);
-            compare(run, calls, "step(" + k + ")", () -> x.step(k), () -> model.step(k));
-        } else if (kind < 160) {
-            int r = among(0, 9);
-            int many = among(0, next(3) > 0 ? 3 : 50);
-            compare(run, calls, "use(" + r + ", " + many + ")", () -> x.use(r, many), () -> model.use(r, many));
-        } else if (kind < 185) {
-            compare(run, calls, "fit(" + n + ")", () -> x.fit(n), () -> model.fit(n));
+    private void setUp() {
+        oddOnes = next(3) > 0 ? 60 : 0;
+        leavesInTen = 2 + next(4);
+        nonesInTen = next(7);
+        lettersInTen = next(6);
+        int shape = next(6);
+        if (shape == 0) {
+            setUpBushes();
+        } else if (shape == 1) {
+            setUpRings();
         } else {
-            int letter = among(0, 2);
-            compare(run, calls, "letters(" + letter + ")", () -> x.letters(letter), () -> model.letters(letter));
+            for (int k = 2 + next(8); k > 0; k--) {
+                addRule();
+            }
         }
     }
 
-    /** Mostly a count that the nonterminal has, and then all its steps. */
-    private void deriveSomething(int run, StringBuilder calls, int n, int a, int b, int c) {
+    /** Each nonterminal leads to some of the next one: trees around the limits of derive. */
+    private void setUpBushes() {
+        for (int n = 0; n < 4; n++) {
+            rule(n, n + 1, n + 1, next(4) > 0 ? n + 1 : -1, next(3) > 0 ? n + 1 : -1);
+        }
+        rule(4, -1, -1, -1, -1);
+        for (int k = next(6); k > 0; k--) {
+            rule(next(5), 5 + next(3), next(3) == 0 ? 4 : -1, -1, -1);
+        }
+    }
+
+    /** A ring of rules with few letters, so that trees get high and uses can go round without the start. */
+    private void setUpRings() {
+        int size = 1 + next(5);
+        for (int n = 0; n < size; n++) {
+            rule(n, (n + 1) % size, next(2) == 0 ? 5 + next(3) : -1, -1, -1);
+        }
+        rule(next(size), 5 + next(3), -1, -1, -1);
+        rule(next(5), next(5), next(5), -1, -1);
+    }
+
+    private void call() {
+        int kind = next(200);
+        if (kind < 1) {
+            compare("clear()", () -> clearOf(x::clear), () -> clearOf(model::clear));
+            setUp();
+        } else if (kind < 4) {
+            addRule();
+        } else if (kind < 50) {
+            callHeight();
+        } else if (kind < 60) {
+            int n = among(0, 4);
+            compare("many(" + n + ")", () -> x.many(n), () -> model.many(n));
+        } else if (kind < 80) {
+            callCount();
+        } else if (kind < 115) {
+            callDerive();
+        } else if (kind < 140) {
+            int k = among(0, next(3) > 0 ? 12 : 120);
+            compare("step(" + k + ")", () -> x.step(k), () -> model.step(k));
+        } else if (kind < 160) {
+            int r = among(0, 9);
+            int many = among(0, next(4) > 0 ? 2 : 50);
+            compare("use(" + r + ", " + many + ")", () -> x.use(r, many), () -> model.use(r, many));
+        } else if (kind < 190) {
+            int n = among(0, 4);
+            compare("fit(" + n + ")", () -> x.fit(n), () -> model.fit(n));
+        } else {
+            int letter = among(0, 2);
+            compare("letters(" + letter + ")", () -> x.letters(letter), () -> model.letters(letter));
+        }
+    }
+
+    private void addRule() {
+        boolean leaf = next(10) < leavesInTen;
+        rule(among(0, 4), symbol(leaf), symbol(leaf), symbol(leaf), symbol(leaf));
+    }
+
+    private void rule(int left, int a, int b, int c, int d) {
+        compare("rule(" + left + ", " + a + ", " + b + ", " + c + ", " + d + ")",
+                () -> x.rule(left, a, b, c, d), () -> model.rule(left, a, b, c, d));
+    }
+
+    private void callHeight() {
+        int n = among(0, 4);
+        int count = countFor(n);
+        int a = count % 8;
+        int b = count / 8 % 8;
+        int c = among(count / 64, count / 64);
+        compare("height(" + n + ", " + a + ", " + b + ", " + c + ")",
+                () -> x.height(n, a, b, c), () -> model.height(n, a, b, c));
+    }
+
+    private void callCount() {
+        int n = among(0, 4);
         int had = n >= 0 && n <= 4 ? model.many(n) : 0;
-        int count = had > 0 && next(5) > 0 ? model.count(n, next(had)) : -1;
-        int a1 = count < 0 ? a : count % 8;
-        int b1 = count < 0 ? b : count / 8 % 8;
-        int c1 = count < 0 ? c : count / 64;
-        compare(run, calls, "derive(" + n + ", " + a1 + ", " + b1 + ", " + c1 + ")",
-                () -> x.derive(n, a1, b1, c1), () -> model.derive(n, a1, b1, c1));
-        checks.dueText("run " + run + ": all steps", steps(model::step), steps(x::step));
-        checks.dueText("run " + run + ": all letters", letters(model::letters), letters(x::letters));
+        int k = next(8) > 0 && had > 0 ? next(had) : among(had - 1, had);
+        compare("count(" + n + ", " + k + ")", () -> x.count(n, k), () -> model.count(n, k));
+    }
+
+    private void callDerive() {
+        int n = among(0, 4);
+        int count = countFor(n);
+        int a = among(count % 8, count % 8);
+        int b = among(count / 8 % 8, count / 8 % 8);
+        int c = count / 64;
+        compare("derive(" + n + ", " + a + ", " + b + ", " + c + ")",
+                () -> x.derive(n, a, b, c), () -> model.derive(n, a, b, c));
+        checks.dueText("all steps", steps(model::step), steps(x::step));
+        checks.dueText("all letters", letters(model::letters), letters(x::letters));
+        if (n >= 0 && n <= 4) {
+            compare("fit(" + n + ")", () -> x.fit(n), () -> model.fit(n));
+        }
+    }
+
+    /** Mostly a count that the nonterminal has. */
+    private int countFor(int n) {
+        int had = n >= 0 && n <= 4 ? model.many(n) : 0;
+        return had > 0 && next(6) > 0 ? model.count(n, next(had)) : next(512);
     }
 
     private interface Row {
@@ -109,26 +177,24 @@ public final class ModelRunsTest {
         return 0;
     }
 
-    private void compare(int run, StringBuilder calls, String what, Checks.Call got, Checks.Call want) {
+    private void compare(String what, Checks.Call got, Checks.Call want) {
         calls.append(what).append('\n');
-        String due = Checks.textOf(want).replace("ArrayIndexOutOf", "IndexOutOf");
-        checks.dueText("run " + run + ": " + what, due, Checks.textOf(got));
+        checks.dueText(what, Checks.textOf(want), Checks.textOf(got));
     }
 
-    private int symbol() {
-        int kind = next(10);
-        if (kind < nonesInTen) {
+    private int symbol(boolean leaf) {
+        if (next(10) < nonesInTen) {
             return -1;
         }
-        if (wrongInputs && next(60) == 0) {
+        if (oddOnes > 0 && next(oddOnes) == 0) {
             return next(2) == 0 ? -2 : 8;
         }
-        return next(10) < lettersInTen ? 5 + next(3) : next(5);
+        return leaf || next(10) < lettersInTen ? 5 + next(3) : next(5);
     }
 
     /** A number between two bounds, now and then one beside them. */
     private int among(int least, int most) {
-        int odd = wrongInputs ? next(40) : 40;
+        int odd = oddOnes > 0 ? next(oddOnes) : 3;
         if (odd == 0) {
             return least - 1;
         }

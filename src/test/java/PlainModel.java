@@ -16,7 +16,9 @@ final class PlainModel {
     private final List<Integer> uses = new ArrayList<>();
     private List<Integer> tree = new ArrayList<>();
     private int[][] heights;
-    private Map<Integer, Boolean> tried = new HashMap<>();
+
+    /** What canMake has answered for a height: 0 not asked yet, 1 it can, 2 it can't. */
+    private byte[] tried;
 
     int rule(int left, int a, int b, int c, int d) {
         checkNonterminal(left);
@@ -183,7 +185,7 @@ final class PlainModel {
             return;
         }
         int h = heights[n][count];
-        tried = new HashMap<>();
+        tried = new byte[10 * 5 * 512];
         for (int r = 0; r < rules.size(); r++) {
             if (rules.get(r)[0] == n && canBeRoot(r, count, h)) {
                 steps.add(r);
@@ -210,7 +212,7 @@ final class PlainModel {
 
     private int firstPossible(int r, int i, int rest, int h) {
         int n = below(r).get(i);
-        for (int count = 0; count < 512; count++) {
+        for (int count = 0; count <= rest; count++) {
             if (isBelow(heights[n][count], h) && minus(rest, count) >= 0
                     && canMake(r, i + 1, minus(rest, count), h)) {
                 return count;
@@ -230,12 +232,10 @@ final class PlainModel {
             return rest == 0;
         }
         int key = (r * 5 + i) * 512 + rest;
-        Boolean before = tried.get(key);
-        if (before == null) {
-            before = firstPossible(r, i, rest, h) >= 0;
-            tried.put(key, before);
+        if (tried[key] == 0) {
+            tried[key] = (byte) (firstPossible(r, i, rest, h) >= 0 ? 1 : 2);
         }
-        return before;
+        return tried[key] == 1;
     }
 
     private static boolean isBelow(int height, int h) {
@@ -250,7 +250,7 @@ final class PlainModel {
         boolean more = true;
         for (int h = 1; more; h++) {
             more = false;
-            tried = new HashMap<>();
+            tried = new byte[10 * 5 * 512];
             for (int r = 0; r < rules.size(); r++) {
                 int n = rules.get(r)[0];
                 for (int count = 0; count < 512; count++) {

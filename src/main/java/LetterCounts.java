@@ -146,7 +146,7 @@ public final class LetterCounts {
         }
         int reached = reachedFrom(n);
         for (int m = 0; m < NONTERMINALS; m++) {
-            if (timesOnTheLeft(m) > 0 && (reached >> m & 1) == 0) {
+            if (timesOnTheLeft(m) > 0 && ((reached >> m) & 1) == 0) {
                 return 11 + m;
             }
         }
@@ -254,7 +254,7 @@ public final class LetterCounts {
         // No way to a nonterminal need be longer than there are nonterminals.
         for (int length = 1; length < NONTERMINALS; length++) {
             for (int r = 0; r < made; r++) {
-                if (rules[r].uses > 0 && (reached >> rules[r].left & 1) != 0) {
+                if (rules[r].uses > 0 && ((reached >> rules[r].left) & 1) != 0) {
                     reached |= rules[r].nonterminalBits();
                 }
             }
@@ -294,7 +294,7 @@ public final class LetterCounts {
         }
 
         boolean holds(int count) {
-            return (planes[count >> 6] >>> (count & 63) & 1L) != 0L;
+            return ((planes[count >> 6] >>> (count & 63)) & 1L) != 0L;
         }
 
         void add(int count) {
@@ -335,7 +335,7 @@ public final class LetterCounts {
             for (int p = 0; p < PLANES; p++) {
                 long plane = some.planes[p];
                 for (int bit = 0; bit < PLANE_BITS && plane != 0L; bit++) {
-                    if ((plane >>> bit & 1L) != 0L) {
+                    if (((plane >>> bit) & 1L) != 0L) {
                         addMoved(others, p, bit);
                     }
                 }
@@ -462,7 +462,7 @@ public final class LetterCounts {
 
         void append(int symbol) {
             if (symbol >= NONTERMINALS) {
-                letterCount += 1 << 3 * (symbol - NONTERMINALS);
+                letterCount += 1 << (3 * (symbol - NONTERMINALS));
             } else if (symbol != NONE && size < PLACES) {
                 parts[size] = symbol;
                 size++;
@@ -470,7 +470,7 @@ public final class LetterCounts {
         }
 
         int lettersOf(int letter) {
-            return letterCount >> 3 * letter & 7;
+            return (letterCount >> (3 * letter)) & 7;
         }
 
         int timesOf(int nonterminal) {

@@ -25,6 +25,7 @@ public final class PromisesTest {
         test.promise7LeastRule();
         test.promise7FirstCounts();
         test.promise7HeightGoesFirst();
+        test.promise7TooManyOfALetter();
         test.promise7Uses();
         test.promise7Limits();
         test.promise7ThrowsChangeNothing();
@@ -273,6 +274,21 @@ public final class PromisesTest {
         LetterCounts y = of(r(0, 1, 2, 3, 4), r(1, 4), r(1, 5), r(2, 5), r(2), r(3, 5), r(3), r(4), r(4, 6));
         checks.due("four trees", 5, () -> y.derive(0, 2, 0, 0));
         dueSteps("four trees", y, 0, 2, 4, 5, 7);
+        LetterCounts z = of(r(0, 1, 2), r(1), r(1, 5), r(2, 5), r(2, 3), r(3, 4), r(4, 5, 5));
+        checks.due("what is left would be too high", 3, () -> z.derive(0, 2, 0, 0));
+        dueSteps("what is left would be too high", z, 0, 2, 3);
+    }
+
+    /** A count with more of one letter than is left is not possible, whatever the numbers' difference is. */
+    private void promise7TooManyOfALetter() {
+        for (int letter = 0; letter < 2; letter++) {
+            int s = 5 + letter;
+            LetterCounts x = of(r(0, 1, 2), r(1, s), r(1, 4), r(4, s + 1), r(2), r(2, 3, s, s, s), r(3, s, s, s, s));
+            int b = 1 - letter;
+            int c = letter;
+            checks.due("one of the next letter", 4, () -> x.derive(0, 0, b, c));
+            dueSteps("one of the next letter", x, 0, 2, 3, 4);
+        }
     }
 
     private void promise7Uses() {

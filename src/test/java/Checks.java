@@ -5,8 +5,22 @@ final class Checks {
         long answer();
     }
 
+    private static final int MOST_TOLD = 50;
+
     private int made = 0;
     private int wrong = 0;
+
+    /** The words of the document that are being tested, or nothing. */
+    private String sentence = "";
+
+    /** A test of one sentence; what it throws itself is a fault of that sentence and hides no other test. */
+    void sentence(String words, Runnable test) {
+        sentence = "\"" + words + "\" ";
+        int before = made;
+        dueText("the test", "nothing thrown", thrownBy(test));
+        dueText("answers looked at", "true", Boolean.toString(made > before + 1));
+        sentence = "";
+    }
 
     void due(String what, long want, Call call) {
         dueText(what, Long.toString(want), textOf(call));
@@ -16,12 +30,22 @@ final class Checks {
         dueText(what, "throws." + want.getSimpleName(), textOf(call));
     }
 
+    /** The steps of the tree that is looked at: just these. */
+    void dueSteps(String what, LetterCounts x, int... want) {
+        for (int k = 0; k < want.length; k++) {
+            int at = k;
+            due(what + ": step(" + k + ")", want[k], () -> x.step(at));
+        }
+        dueThrow(what + ": the step behind the last", IndexOutOfBoundsException.class,
+                () -> x.step(want.length));
+    }
+
     void dueText(String what, String want, String got) {
         made++;
         if (!want.equals(got)) {
             wrong++;
-            if (wrong <= 50) {
-                System.out.println(what + " answered " + got + ", due is " + want);
+            if (wrong <= MOST_TOLD) {
+                System.out.println(sentence + what + " answered " + got + ", due is " + want);
             }
         }
     }
@@ -29,6 +53,15 @@ final class Checks {
     static String textOf(Call call) {
         try {
             return Long.toString(call.answer());
+        } catch (RuntimeException e) {
+            return "throws." + e.getClass().getSimpleName();
+        }
+    }
+
+    private static String thrownBy(Runnable test) {
+        try {
+            test.run();
+            return "nothing thrown";
         } catch (RuntimeException e) {
             return "throws." + e.getClass().getSimpleName();
         }

@@ -32,10 +32,8 @@ public final class FitMeaningTest {
     }
 
     private void compareAll(String name, int[][] rules) {
-        LetterCounts x = new LetterCounts();
         PlainModel model = new PlainModel();
         for (int[] r : rules) {
-            x.rule(r[0], r[1], r[2], r[3], r[4]);
             model.rule(r[0], r[1], r[2], r[3], r[4]);
         }
         int all = 1;
@@ -43,6 +41,8 @@ public final class FitMeaningTest {
             all *= MOST + 1;
         }
         for (int mix = 0; mix < all; mix++) {
+            // A new one each time, for an object has but 512 calls.
+            LetterCounts x = Rules.of(rules);
             int rest = mix;
             for (int r = 0; r < rules.length; r++) {
                 x.use(r, rest % (MOST + 1));

@@ -85,6 +85,11 @@ final class PlainModel {
         return tree.get(k);
     }
 
+    /** How many steps the tree that is looked at has; none if there is no such tree. */
+    int steps() {
+        return tree.size();
+    }
+
     int use(int rule, int many) {
         check(rule >= 0 && rule < rules.size());
         check(many >= 0 && many <= 50);

@@ -5,10 +5,12 @@ final class Checks {
         long answer();
     }
 
-    private static final int MOST_TOLD = 50;
+    /** For each sentence, so that faults of one don't hide those of another. */
+    private static final int MOST_TOLD = 10;
 
     private int made = 0;
     private int wrong = 0;
+    private int told = 0;
 
     /** The words of the document that are being tested, or nothing. */
     private String sentence = "";
@@ -16,10 +18,12 @@ final class Checks {
     /** A test of one sentence; what it throws itself is a fault of that sentence and hides no other test. */
     void sentence(String words, Runnable test) {
         sentence = "\"" + words + "\" ";
+        told = 0;
         int before = made;
         dueText("the test", "nothing thrown", thrownBy(test));
         dueText("answers looked at", "true", Boolean.toString(made > before + 1));
         sentence = "";
+        told = 0;
     }
 
     void due(String what, long want, Call call) {
@@ -44,7 +48,8 @@ final class Checks {
         made++;
         if (!want.equals(got)) {
             wrong++;
-            if (wrong <= MOST_TOLD) {
+            told++;
+            if (told <= MOST_TOLD) {
                 System.out.println(sentence + what + " answered " + got + ", due is " + want);
             }
         }

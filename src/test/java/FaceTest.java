@@ -45,10 +45,6 @@ public final class FaceTest {
         }
         checks.dueText("the face", new TreeSet<>(Arrays.asList(FACE)).toString(), seen.toString());
         checks.dueText("the class", "public final", Modifier.toString(face.getModifiers()));
-        for (Class<?> inside : face.getDeclaredClasses()) {
-            checks.dueText(inside + " is static", "true",
-                    Boolean.toString(Modifier.isStatic(inside.getModifiers())));
-        }
         checks.due("NONE", -1, () -> LetterCounts.NONE);
         checks.end();
     }

@@ -1,93 +1,61 @@
 import java.lang.management.ManagementFactory;
-import java.lang.reflect.Array;
-import java.lang.reflect.Field;
-import java.lang.reflect.Modifier;
-import java.util.ArrayDeque;
-import java.util.Collections;
-import java.util.Deque;
-import java.util.IdentityHashMap;
-import java.util.Set;
 
-/** What a run makes: the parts of a full object are few, and calls on it make none beside them. */
+/**
+ * What a run makes: whatever the object is like inside, the bytes of a dear run stay below those that the
+ * fullest room could hold.
+ */
 public final class RoomTest {
     private static final int CALLS = 512;
     private static final long MOST_OBJECTS = 600_000L;
     private static final long MOST_ELEMENTS = 7_300_000L;
+    private static final long MOST_BYTES = MOST_OBJECTS * 16 + MOST_ELEMENTS * 8;
 
     private final Checks checks = new Checks();
 
-    public static void main(String[] args) throws IllegalAccessException {
+    public static void main(String[] args) {
         RoomTest test = new RoomTest();
-        test.objectsStayFew();
-        test.callsMakeNothing();
+        // What the machine itself makes at first use is no part of a run.
+        dearCalls(new LetterCounts());
+        test.runWithin("a new object each call", RoomTest::newObjects);
+        test.runWithin("ten rules again and again", RoomTest::newRules);
+        test.runWithin("all kinds of calls", RoomTest::allCalls);
         test.checks.end();
     }
 
-    private void objectsStayFew() throws IllegalAccessException {
-        long[] bare = partsOf(new LetterCounts());
-        LetterCounts x = new LetterCounts();
-        long[] full = null;
-        for (int k = 0; k < 10; k++) {
-            x.rule(0, 1, 2, 3, 4);
-            full = partsOf(x);
-        }
-        System.out.println("new: " + bare[0] + " objects, " + bare[1] + " elements; with ten rules: "
-                + full[0] + " objects, " + full[1] + " elements");
-        // The dearest run that could be: each call makes a new object or a first rule in its place.
-        long objects = Math.max(bare[0], (full[0] - bare[0]) / 10 + 1);
-        long elements = Math.max(bare[1], (full[1] - bare[1]) / 10 + 1);
-        checks.dueText("objects of a run", "true", Boolean.toString(CALLS * objects < MOST_OBJECTS));
-        checks.dueText("elements of a run", "true", Boolean.toString(CALLS * elements < MOST_ELEMENTS));
-    }
-
-    /** Objects and arrays, and their fields and elements, that can be reached from an object. */
-    private static long[] partsOf(Object start) throws IllegalAccessException {
-        Set<Object> seen = Collections.newSetFromMap(new IdentityHashMap<>());
-        Deque<Object> open = new ArrayDeque<>();
-        seen.add(start);
-        open.add(start);
-        long elements = 0;
-        while (!open.isEmpty()) {
-            Object next = open.remove();
-            if (next.getClass().isArray()) {
-                elements += Array.getLength(next);
-                for (int k = 0; next instanceof Object[] && k < Array.getLength(next); k++) {
-                    visit(Array.get(next, k), seen, open);
-                }
-                continue;
-            }
-            for (Field field : next.getClass().getDeclaredFields()) {
-                if (!Modifier.isStatic(field.getModifiers())) {
-                    elements++;
-                    if (!field.getType().isPrimitive()) {
-                        field.setAccessible(true);
-                        visit(field.get(next), seen, open);
-                    }
-                }
-            }
-        }
-        return new long[] {seen.size(), elements};
-    }
-
-    private static void visit(Object part, Set<Object> seen, Deque<Object> open) {
-        if (part != null && seen.add(part)) {
-            open.add(part);
-        }
-    }
-
-    private void callsMakeNothing() {
-        LetterCounts x = new LetterCounts();
-        dearCalls(x);
+    private void runWithin(String what, Runnable run) {
         long before = allocatedBytes();
-        for (int k = 0; k < 20; k++) {
+        run.run();
+        long bytes = allocatedBytes() - before;
+        System.out.println(what + ": " + bytes + " bytes");
+        checks.dueText(what + ": room", "true", Boolean.toString(bytes <= MOST_BYTES));
+    }
+
+    private static void newObjects() {
+        for (int k = 0; k < CALLS; k++) {
+            LetterCounts x = new LetterCounts();
+            x.clear();
+        }
+    }
+
+    /** Each object has its rules, and is asked about them once. */
+    private static void newRules() {
+        for (int k = 0; k + 12 <= CALLS; k += 12) {
+            LetterCounts x = new LetterCounts();
+            for (int rule = 0; rule < 10; rule++) {
+                x.rule(0, 1, 2, 3, 4);
+            }
+            x.many(0);
+        }
+    }
+
+    private static void allCalls() {
+        LetterCounts x = new LetterCounts();
+        for (int k = 0; k + 19 <= CALLS; k += 19) {
             dearCalls(x);
         }
-        long bytes = allocatedBytes() - before;
-        System.out.println("calls on a full object made " + bytes + " bytes");
-        // What the machine itself makes meanwhile is far below one row of counts for each time.
-        checks.dueText("calls make nothing", "true", Boolean.toString(bytes < 20 * 512));
     }
 
+    /** Nineteen calls. */
     private static void dearCalls(LetterCounts x) {
         x.clear();
         x.rule(0, 1, 2, 3, 4);

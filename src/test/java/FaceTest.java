@@ -44,9 +44,24 @@ public final class FaceTest {
             addVisible(seen, m.getModifiers(), m.toString());
         }
         checks.dueText("the face", new TreeSet<>(Arrays.asList(FACE)).toString(), seen.toString());
+        dueOwnNames(checks, face);
         checks.dueText("the class", "public final", Modifier.toString(face.getModifiers()));
         checks.due("NONE", -1, () -> LetterCounts.NONE);
         checks.end();
+    }
+
+    /** No private method bears the name of a public one. */
+    private static void dueOwnNames(Checks checks, Class<?> face) {
+        Set<String> publicNames = new TreeSet<>();
+        for (Method m : face.getMethods()) {
+            publicNames.add(m.getName());
+        }
+        for (Method m : face.getDeclaredMethods()) {
+            if (Modifier.isPrivate(m.getModifiers())) {
+                checks.dueText(m + " has a name of its own", "true",
+                        Boolean.toString(!publicNames.contains(m.getName())));
+            }
+        }
     }
 
     private static void addVisible(Set<String> seen, int modifiers, String text) {
